@@ -180,5 +180,9 @@ final class BidTests {
         }
         farm.withdrawBid(9);
         Check.answers(3, () -> farm.bidByPrice(1));
+        farm.withdrawBid(0);
+        farm.placeBid(0, 50, 1);
+        Check.answers(0, () -> farm.bidByPrice(0));
+        Check.answers(23, () -> farm.bidByPrice(1));
     }
 }

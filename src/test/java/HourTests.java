@@ -194,6 +194,20 @@ final class HourTests {
         Check.refuses(NONE, () -> Farms.empty().turbineByOutput(0));
     }
 
+    static void promise49turbineByOutputOfTheSameOutput() {
+        WindFarmDispatcher farm = Farms.empty();
+        farm.addTurbine(0, 0, 2);
+        farm.addTurbine(0, 2, 3);
+        farm.addTurbine(2, 1, 9);
+        farm.addTurbine(4, 4, 3);
+        order(farm, 2, 1, 3, 0);
+        farm.setWind('S', 12);
+        farm.curtail(1, 21);
+        farm.curtail(2, 20);
+        farm.curtail(3, 21);
+        order(farm, 1, 3, 2, 0);
+    }
+
     private static void order(WindFarmDispatcher farm, int... due) {
         for (int at = 0; at < due.length; at++) {
             int position = at;
@@ -204,6 +218,9 @@ final class HourTests {
     static void promise50meanOutput() {
         WindFarmDispatcher farm = Farms.empty();
         Farms.refusesAndKeeps(farm, ArithmeticException.class, farm::meanOutput);
+        farm.addTurbine(2, 2, 7);
+        farm.setWind('S', 4);
+        Check.answers(14.0, farm::meanOutput);
         WindFarmDispatcher column = Farms.column();
         Check.answers(46.25, column::meanOutput);
         column.addTurbine(3, 3, 1);
@@ -217,6 +234,9 @@ final class HourTests {
     static void promise51runningShare() {
         WindFarmDispatcher farm = Farms.empty();
         Farms.refusesAndKeeps(farm, ArithmeticException.class, farm::runningShare);
+        farm.addTurbine(2, 2, 7);
+        farm.fail(0);
+        Check.answers(0.0f, farm::runningShare);
         WindFarmDispatcher column = Farms.column();
         Check.answers(1.0f, column::runningShare);
         column.curtail(0, 0);

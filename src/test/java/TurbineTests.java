@@ -98,6 +98,10 @@ final class TurbineTests {
         farm.fail(0);
         Farms.rejectsAndKeeps(farm, WindFarmDispatcher.NO_CREW, 1, () -> farm.sendCrew(0, 1));
         Farms.rejectsAndKeeps(farm, WindFarmDispatcher.NOT_FAILED, 30, () -> farm.sendCrew(3, 1));
+        farm.recallCrew(2);
+        farm.sendCrew(0, 1);
+        Farms.rejectsAndKeeps(farm, WindFarmDispatcher.NO_CREW, 0, () -> farm.sendCrew(2, 1));
+        farm.undo();
         for (int hours : new int[] {0, 13, -1, Integer.MIN_VALUE, Integer.MAX_VALUE}) {
             Farms.refusesAndKeeps(farm, WRONG, () -> farm.sendCrew(0, hours));
             Farms.refusesAndKeeps(farm, WRONG, () -> farm.sendCrew(3, hours));
