@@ -1,3 +1,4 @@
+import java.util.NoSuchElementException;
 import java.util.Objects;
 
 /** Compares answers with those that are due, and counts the wrong ones. */
@@ -5,6 +6,13 @@ final class Check {
     interface Call {
         Object answer();
     }
+
+    static final Class<? extends RuntimeException> INDEX = IndexOutOfBoundsException.class;
+    static final Class<? extends RuntimeException> ARGUMENT = IllegalArgumentException.class;
+    static final Class<? extends RuntimeException> STATE = IllegalStateException.class;
+    static final Class<? extends RuntimeException> ELEMENT = NoSuchElementException.class;
+    static final Class<? extends RuntimeException> REJECTED = UnsupportedOperationException.class;
+    static final Class<? extends RuntimeException> ARITHMETIC = ArithmeticException.class;
 
     private static int wrong = 0;
 
@@ -32,12 +40,12 @@ final class Check {
     }
 
     static void refuses(Class<? extends RuntimeException> due, Call call) {
-        answers("throws " + due.getName(), call);
+        answers(thrown(due), call);
     }
 
     /** A rejected call: what it throws, and the reason and the detail of the rejection. */
     static void rejects(WindFarmDispatcher farm, int reason, int detail, Call call) {
-        refuses(UnsupportedOperationException.class, call);
+        refuses(REJECTED, call);
         answers(reason, farm::rejectionReason);
         answers(detail, farm::rejectionDetail);
     }
@@ -47,13 +55,17 @@ final class Check {
         try {
             return call.answer();
         } catch (RuntimeException thrown) {
-            return "throws " + thrown.getClass().getName();
+            return thrown(thrown.getClass());
         }
+    }
+
+    static String thrown(Class<? extends RuntimeException> kind) {
+        return "throws " + kind.getName();
     }
 
     private static String caller() {
         for (StackTraceElement element : new Throwable().getStackTrace()) {
-            if (!element.getClassName().equals("Check")) {
+            if (!element.getClassName().matches("Check|Twins")) {
                 return element.toString();
             }
         }

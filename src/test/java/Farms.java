@@ -1,4 +1,4 @@
-/** Farms to test with, and what can be seen of a farm. */
+/** Farms to test with, and what can be seen of a farm. An object answers 512 calls alone, so farms are small. */
 final class Farms {
     private Farms() {
     }
@@ -7,7 +7,15 @@ final class Farms {
         return new WindFarmDispatcher();
     }
 
-    /** Wind from the north at full power; three turbines under one another, and one alone. */
+    /** One turbine in the cell 2, 2, and a wind from the north that gives it ten times its rated power. */
+    static WindFarmDispatcher alone(int rated) {
+        WindFarmDispatcher farm = new WindFarmDispatcher();
+        farm.addTurbine(2, 2, rated);
+        farm.setWind('N', 12);
+        return farm;
+    }
+
+    /** Three turbines under one another, and one alone; their outputs are 90, 35, 30 and 30. */
     static WindFarmDispatcher column() {
         WindFarmDispatcher farm = new WindFarmDispatcher();
         farm.addTurbine(0, 0, 9);
@@ -24,6 +32,38 @@ final class Farms {
         for (int turbine = 0; turbine < 12; turbine++) {
             farm.addTurbine(turbine / 6 * 3, turbine % 6, rated);
         }
+        return farm;
+    }
+
+    static WindFarmDispatcher full() {
+        return full(3);
+    }
+
+    /**
+     * The column with a turbine that runs, one that is curtailed to 20, one that is failed and one with 5 hours of
+     * service left; bids, accounts, a snapshot, three changes, a rejection, a syntax error, an output and an input.
+     */
+    static WindFarmDispatcher busy() {
+        WindFarmDispatcher farm = busyWithoutInput();
+        type(farm, "g7");
+        return farm;
+    }
+
+    static WindFarmDispatcher busyWithoutInput() {
+        WindFarmDispatcher farm = column();
+        farm.placeBid(1, 10, 100);
+        farm.placeBid(20, 30, 400);
+        farm.fail(2);
+        farm.fail(3);
+        farm.sendCrew(3, 7);
+        farm.saveSnapshot();
+        farm.restoreSnapshot();
+        farm.passHours(2);
+        farm.curtail(1, 20);
+        farm.setGridLimit(150);
+        Check.outcome(() -> run(farm, "d;"));
+        Check.outcome(() -> farm.withdrawBid(5));
+        farm.writeTurbine(1);
         return farm;
     }
 
@@ -47,72 +87,65 @@ final class Farms {
         return text.toString();
     }
 
-    /** All that undo and the snapshot cover. */
-    static String dataOf(WindFarmDispatcher farm) {
+    /** In which of the three states a turbine is; more or fewer than one would show. */
+    static String stateOf(WindFarmDispatcher farm, int turbine) {
+        return (farm.isRunning(turbine) ? "running" : "") + (farm.isFailed(turbine) ? "failed" : "")
+                + (farm.isInService(turbine) ? "in service" : "");
+    }
+
+    /** What undo and the snapshot cover, in few calls. */
+    static String sketchOf(WindFarmDispatcher farm) {
         StringBuilder text = new StringBuilder();
         text.append(farm.windDirection()).append(farm.windSpeed()).append(" grid ").append(farm.gridLimit());
         text.append(" time ").append(farm.time()).append(" crews ").append(farm.freeCrews());
-        text.append(" total ").append(farm.totalOutput()).append(' ').append(farm.totalOutputByLines());
-        text.append(" accounts ").append(farm.energyMade()).append(' ').append(farm.energyLost());
-        text.append(' ').append(farm.energySold()).append(' ').append(farm.energySpilled());
-        text.append(' ').append(farm.coins()).append(' ').append(farm.isConsistent());
-        for (int t = 0; t < farm.turbineCount(); t++) {
-            int turbine = t;
-            text.append("; ").append(farm.rowOf(t)).append(',').append(farm.columnOf(t));
-            text.append('p').append(farm.ratedPower(t)).append('=').append(farm.outputOf(t));
-            text.append(farm.isRunning(t) ? " runs" : farm.isFailed(t) ? " failed" : " served");
-            text.append(' ').append(Check.outcome(() -> farm.limitOf(turbine)));
-            text.append(' ').append(Check.outcome(() -> farm.serviceHoursLeft(turbine)));
+        text.append(" turbines ").append(farm.turbineCount()).append(" total ").append(farm.totalOutput());
+        text.append(" accounts ").append(farm.energyMade()).append(' ').append(farm.energySold());
+        text.append(' ').append(farm.coins()).append(" bid in ").append(Check.outcome(farm::hoursToBid));
+        return text.toString();
+    }
+
+    /** All that undo and the snapshot cover. */
+    static String dataOf(WindFarmDispatcher farm) {
+        StringBuilder text = new StringBuilder(sketchOf(farm));
+        text.append("; lost ").append(farm.energyLost()).append(" spilled ").append(farm.energySpilled());
+        int count = farm.turbineCount();
+        for (int turbine = 0; turbine < count; turbine++) {
+            text.append("; ").append(turbineOf(farm, turbine));
         }
-        for (int hour = 0; hour < 24; hour++) {
-            if (farm.hasBid(hour)) {
-                text.append("; bid ").append(hour).append(':').append(farm.bidPrice(hour));
-                text.append('*').append(farm.bidQuantity(hour));
-            }
+        Object hour = Check.outcome(() -> farm.bidByPrice(0));
+        for (int position = 1; hour instanceof Integer; position++) {
+            int next = position;
+            text.append("; bid ").append(hour).append(':').append(farm.bidPrice((int) hour));
+            text.append('*').append(farm.bidQuantity((int) hour));
+            hour = Check.outcome(() -> farm.bidByPrice(next));
         }
         return text.toString();
     }
 
-    /** What a call that throws must leave as it was, the latest rejection included. */
-    static String allOf(WindFarmDispatcher farm) {
-        return dataOf(farm) + "; rejected " + Check.outcome(farm::rejectionReason)
-                + ' ' + Check.outcome(farm::rejectionDetail) + ' ' + Check.outcome(farm::causeReason)
-                + " syntax " + Check.outcome(farm::syntaxErrorOffset);
+    private static String turbineOf(WindFarmDispatcher farm, int turbine) {
+        return farm.rowOf(turbine) + "," + farm.columnOf(turbine) + "p" + farm.ratedPower(turbine)
+                + (farm.isRunning(turbine) ? " runs " : " rests ") + Check.outcome(() -> farm.limitOf(turbine))
+                + " " + Check.outcome(() -> farm.serviceHoursLeft(turbine));
     }
 
-    /** Checks that a call throws and that nothing is different after it. */
-    static void refusesAndKeeps(WindFarmDispatcher farm, Class<? extends RuntimeException> due, Check.Call call) {
-        String before = allOf(farm);
-        Check.refuses(due, call);
-        Check.answers(before, () -> allOf(farm));
+    /** What undo and the snapshot do not cover, but for the input. */
+    static String messagesOf(WindFarmDispatcher farm) {
+        return rejectionOf(farm) + " syntax " + Check.outcome(farm::syntaxErrorOffset) + " output " + outputOf(farm);
     }
 
-    /** Checks that a call is rejected and that only the latest rejection is different after it. */
-    static void rejectsAndKeeps(WindFarmDispatcher farm, int reason, int detail, Check.Call call) {
-        String before = dataOf(farm);
-        Check.rejects(farm, reason, detail, call);
-        Check.answers(before, () -> dataOf(farm));
+    static String rejectionOf(WindFarmDispatcher farm) {
+        return "rejected " + Check.outcome(farm::rejectionReason) + ' ' + Check.outcome(farm::rejectionDetail)
+                + ' ' + Check.outcome(farm::causeReason);
     }
 
-    /** Checks that a call is none of the changes that can be undone. */
-    static void isNoChange(WindFarmDispatcher farm, Check.Call call) {
-        forgetChanges(farm);
-        Check.outcome(call);
-        Check.refuses(IllegalStateException.class, farm::undo);
-    }
-
-    /** Checks that a call is a change, and that undo takes back all of it. */
-    static void isChange(WindFarmDispatcher farm, Object due, Check.Call call) {
-        forgetChanges(farm);
-        String before = dataOf(farm);
-        Check.answers(due, call);
-        Check.answers(0, farm::undo);
-        Check.answers(before, () -> dataOf(farm));
-        Check.answers(due, call);
-    }
-
-    private static void forgetChanges(WindFarmDispatcher farm) {
-        farm.saveSnapshot();
-        farm.restoreSnapshot();
+    static String outputOf(WindFarmDispatcher farm) {
+        StringBuilder text = new StringBuilder();
+        Object sign = Check.outcome(() -> farm.outputAt(0));
+        for (int index = 1; sign instanceof Character; index++) {
+            int next = index;
+            text.append(sign);
+            sign = Check.outcome(() -> farm.outputAt(next));
+        }
+        return text.toString();
     }
 }

@@ -1,211 +1,301 @@
-import java.util.NoSuchElementException;
-
 /** Promises 40 to 52: hours, accounts and orders. */
 final class HourTests {
-    private static final Class<? extends RuntimeException> WRONG = IllegalArgumentException.class;
-    private static final Class<? extends RuntimeException> NONE = NoSuchElementException.class;
-    private static final int[] NO_NUMBERS_OF_HOURS = {0, 49, -1, Integer.MIN_VALUE, Integer.MAX_VALUE};
+    // ---- passHours
 
-    private static void accounts(WindFarmDispatcher farm, long made, long lost, long sold, long spilled, long coins) {
-        Check.answers(made, farm::energyMade);
-        Check.answers(lost, farm::energyLost);
-        Check.answers(sold, farm::energySold);
-        Check.answers(spilled, farm::energySpilled);
-        Check.answers(coins, farm::coins);
-        Check.answers(true, farm::isConsistent);
-    }
-
+    @Sentence("Lets hours pass.")
     static void promise40passHours() {
-        WindFarmDispatcher farm = Farms.column();
-        Farms.isChange(farm, 0, () -> farm.passHours(1));
-        accounts(farm, 185, 9, 0, 176, 0);
-        farm.placeBid(1, 10, 100);
-        farm.placeBid(2, 3, 176);
-        farm.placeBid(3, 7, 200);
-        Check.answers(100, () -> farm.passHours(1));
-        accounts(farm, 370, 18, 100, 252, 1000);
-        Check.answers(176, () -> farm.passHours(1));
-        accounts(farm, 555, 27, 276, 252, 1528);
-        Check.answers(176, () -> farm.passHours(1));
-        accounts(farm, 740, 36, 452, 252, 1528 + 7 * (176 - 24));
-        for (int hours : NO_NUMBERS_OF_HOURS) {
-            Farms.refusesAndKeeps(farm, WRONG, () -> farm.passHours(hours));
+        WindFarmDispatcher farm = Farms.busy();
+        farm.passHours(4);
+        Check.answers(6, farm::time);
+        Check.answers(250L + 4 * 110L, farm::energyMade);
+        Check.answers(12L + 4 * 5L, farm::energyLost);
+        Check.answers(1, () -> farm.serviceHoursLeft(3));
+        farm.passHours(48);
+        Check.answers(54, farm::time);
+        Check.answers("running", () -> Farms.stateOf(farm, 3));
+        // the turbine in service makes 30 from the second of these hours on
+        Check.answers(250L + 5 * 110L + 47 * 140L, farm::energyMade);
+        Check.answers(12L + 5 * 5L + 47 * 7L, farm::energyLost);
+    }
+
+    /** Hours that pass at once are as hours that pass one by one. */
+    @Sentence("Lets hours pass.")
+    static void promise40hoursAtOnceAndOneByOne() {
+        WindFarmDispatcher atOnce = Farms.busy();
+        WindFarmDispatcher oneByOne = Farms.busy();
+        int sold = 0;
+        for (int hour = 0; hour < 30; hour++) {
+            sold += oneByOne.passHours(1);
         }
-        Farms.isChange(farm, 452, () -> farm.passHours(24));
-        Check.answers(904, () -> farm.passHours(48));
-        Check.answers(76, farm::time);
+        Check.answers(sold, () -> atOnce.passHours(30));
+        Check.answers(Farms.dataOf(oneByOne), () -> Farms.dataOf(atOnce));
     }
 
-    /** A turbine comes back after the accounts of an hour, and makes wakes from the next hour on. */
-    static void promise40passHoursWithService() {
-        WindFarmDispatcher farm = Farms.column();
-        farm.curtail(0, 1);
-        farm.fail(0);
-        farm.fail(1);
-        farm.fail(2);
-        farm.sendCrew(0, 2);
-        farm.sendCrew(1, 1);
-        farm.placeBid(0, 1, 500);
-        farm.passHours(1);
-        accounts(farm, 30, 1, 29, 0, 29 - 471);
-        Check.answers(1, () -> farm.serviceHoursLeft(0));
-        Check.answers(true, () -> farm.isRunning(1));
-        farm.passHours(1);
-        accounts(farm, 30 + 80, 1 + 4, 29, 76, 29 - 471);
-        Check.answers(90 + 35 + 30, farm::totalOutput);
-        Check.refuses(NONE, () -> farm.limitOf(0));
-        Check.answers(true, () -> farm.isFailed(2));
-        Check.answers(2, farm::freeCrews);
+    @Sentence("- `hours`: the number of hours, 1 to 48")
+    static void promise40hoursAreOneTo48() {
+        for (int hours = 1; hours <= 48; hours++) {
+            int given = hours;
+            WindFarmDispatcher farm = Farms.alone(9);
+            Check.answers(0, () -> farm.passHours(given));
+            Check.answers(given, farm::time);
+            Check.answers(90L * given, farm::energyMade);
+        }
     }
 
-    static void promise40lossIsRoundedDown() {
-        WindFarmDispatcher farm = Farms.empty();
-        farm.addTurbine(0, 0, 2);
-        farm.setWind('N', 12);
-        farm.curtail(0, 19);
-        farm.passHours(1);
-        accounts(farm, 19, 0, 0, 19, 0);
-        farm.curtail(0, 20);
-        farm.passHours(1);
-        accounts(farm, 39, 1, 0, 38, 0);
+    @Sentence("Returns the units of energy that are sold in these hours.")
+    static void promise40passHoursReturnsWhatIsSold() {
+        Twins.changes(0, Farms::column, farm -> farm.passHours(48));
+        Twins.changes(0, Farms::busy, farm -> farm.passHours(18));
+        // at 20 o'clock there are 140 less 7, at 1 o'clock the bid is for 100
+        Twins.changes(133, Farms::busy, farm -> farm.passHours(19));
+        Twins.changes(133, Farms::busy, farm -> farm.passHours(23));
+        Twins.changes(233, Farms::busy, farm -> farm.passHours(24));
+        Twins.changes(466, Farms::busy, farm -> farm.passHours(48));
     }
 
+    @Sentence("Throws `IllegalArgumentException` if hours is out of range")
+    static void promise40passHoursNeedsHours() {
+        Twins.needRange(1, 48, Farms::busy, WindFarmDispatcher::passHours);
+    }
+
+    @Sentence({"Returns the time.", "Returns the number of hours that have passed so far."})
     static void promise41time() {
+        Twins.reads(0, Farms::empty, WindFarmDispatcher::time);
+        Twins.reads(2, Farms::busy, WindFarmDispatcher::time);
         WindFarmDispatcher farm = Farms.empty();
-        Check.answers(0, farm::time);
-        farm.passHours(48);
-        Check.answers(48, farm::time);
+        farm.passHours(23);
+        Check.answers(23, farm::time);
         farm.passHours(1);
-        Check.answers(49, farm::time);
+        Check.answers(24, farm::time);
+        farm.passHours(48);
+        Check.answers(72, farm::time);
         Farms.run(farm, "t12;t13");
-        Check.answers(74, farm::time);
+        Check.answers(97, farm::time);
+        farm.undo();
+        Check.answers(72, farm::time);
     }
 
+    // ---- forecasts
+
+    @Sentence("Returns how many coins would be earned if hours passed now.")
     static void promise42incomeWithin() {
-        WindFarmDispatcher farm = Farms.column();
-        farm.placeBid(1, 10, 100);
-        farm.placeBid(23, 2, 500);
-        farm.fail(0);
-        farm.sendCrew(0, 3);
-        farm.passHours(22);
-        farm.fail(3);
-        farm.sendCrew(3, 2);
-        for (int hours : new int[] {1, 2, 3, 4, 27, 28, 48}) {
-            String before = Farms.allOf(farm);
-            int income = farm.incomeWithin(hours);
-            Check.answers(before, () -> Farms.allOf(farm));
-            long coins = farm.coins();
+        for (int hours : new int[] {1, 2, 18, 19, 23, 24, 42, 43, 47, 48}) {
+            WindFarmDispatcher farm = Farms.busy();
             farm.passHours(hours);
-            Check.answers(coins + income, farm::coins);
-            farm.undo();
+            int income = (int) (farm.coins() - 1000);
+            Twins.reads(income, Farms::busy, busy -> busy.incomeWithin(hours));
         }
-        Check.answers(0, () -> farm.incomeWithin(1));
-        // 155 made and 7 lost: 148 sold, 352 not
-        Check.answers(-408, () -> farm.incomeWithin(2));
-        Farms.isNoChange(farm, () -> farm.incomeWithin(48));
-        for (int hours : NO_NUMBERS_OF_HOURS) {
-            Farms.refusesAndKeeps(farm, WRONG, () -> farm.incomeWithin(hours));
-        }
-    }
-
-    static void promise43hoursToBid() {
-        WindFarmDispatcher farm = Farms.empty();
-        Farms.refusesAndKeeps(farm, NONE, farm::hoursToBid);
-        farm.placeBid(0, 1, 1);
-        Check.answers(0, farm::hoursToBid);
-        farm.passHours(1);
-        Check.answers(23, farm::hoursToBid);
-        farm.placeBid(20, 1, 1);
-        Check.answers(19, farm::hoursToBid);
+        WindFarmDispatcher farm = Farms.alone(1);
+        farm.placeBid(0, 7, 10);
         farm.passHours(24);
-        Check.answers(19, farm::hoursToBid);
-        farm.passHours(19);
-        Check.answers(0, farm::hoursToBid);
-        farm.withdrawBid(20);
-        Check.answers(4, farm::hoursToBid);
-        farm.withdrawBid(0);
-        Farms.refusesAndKeeps(farm, NONE, farm::hoursToBid);
+        // the coins that there are already do not count
+        Check.answers(70, () -> farm.incomeWithin(24));
     }
 
-    static void promise44energyMade() {
-        WindFarmDispatcher farm = Farms.full(9);
-        farm.setWind('N', 12);
-        for (int day = 1; day <= 100; day++) {
-            farm.passHours(48);
+    @Sentence("- `hours`: the number of hours, 1 to 48")
+    static void promise42incomeWithinOneTo48Hours() {
+        WindFarmDispatcher farm = Farms.alone(1);
+        farm.placeBid(0, 7, 10);
+        farm.placeBid(23, 11, 10);
+        int[][] hoursAndIncomes = {{1, 70}, {2, 70}, {23, 70}, {24, 180}, {25, 250}, {47, 250}, {48, 360}};
+        for (int[] row : hoursAndIncomes) {
+            Check.answers(row[1], () -> farm.incomeWithin(row[0]));
         }
-        Check.answers(1080L * 4800, farm::energyMade);
-        Farms.isNoChange(farm, farm::energyMade);
     }
 
-    static void promise45energyLost() {
-        WindFarmDispatcher farm = Farms.column();
-        farm.passHours(3);
-        Check.answers(27L, farm::energyLost);
-        farm.setWind('N', 2);
-        farm.passHours(3);
-        Check.answers(27L, farm::energyLost);
-    }
-
-    static void promise46energySold() {
-        WindFarmDispatcher farm = Farms.column();
-        farm.placeBid(2, 1, 1);
-        farm.passHours(2);
-        Check.answers(0L, farm::energySold);
-        farm.passHours(48);
-        Check.answers(2L, farm::energySold);
-    }
-
-    static void promise47energySpilled() {
-        WindFarmDispatcher farm = Farms.column();
-        farm.placeBid(1, 1, 6);
-        farm.passHours(1);
-        Check.answers(176L, farm::energySpilled);
-        farm.passHours(1);
-        Check.answers(346L, farm::energySpilled);
-    }
-
-    static void promise48coins() {
+    @Sentence("Returns the number of coins, which can be negative.")
+    static void promise42incomeCanBeNegative() {
         WindFarmDispatcher farm = Farms.empty();
         for (int hour = 0; hour < 24; hour++) {
             farm.placeBid(hour, 50, 500);
         }
+        Check.answers(-25000, () -> farm.incomeWithin(1));
+        Check.answers(-1200000, () -> farm.incomeWithin(48));
+        WindFarmDispatcher even = Farms.alone(1);
+        even.placeBid(0, 50, 20);
+        Check.answers(0, () -> even.incomeWithin(1));
+        even.withdrawBid(0);
+        even.placeBid(0, 50, 21);
+        Check.answers(-50, () -> even.incomeWithin(1));
+    }
+
+    @Sentence("Throws `IllegalArgumentException` if hours is out of range")
+    static void promise42incomeWithinNeedsHours() {
+        Twins.needRange(1, 48, Farms::busy, WindFarmDispatcher::incomeWithin);
+    }
+
+    @Sentence("Returns after how many hours the next hour with a bid begins.")
+    static void promise43hoursToBid() {
+        Twins.reads(18, Farms::busy, WindFarmDispatcher::hoursToBid);
+        for (int hour = 0; hour < 24; hour++) {
+            for (int time : new int[] {1, 12, 23, 24, 47}) {
+                WindFarmDispatcher farm = Farms.empty();
+                farm.placeBid(hour, 1, 1);
+                farm.passHours(time);
+                Check.answers((hour + 48 - time) % 24, farm::hoursToBid);
+            }
+        }
+        WindFarmDispatcher farm = Farms.busy();
+        farm.passHours(19);
+        // from 21 o'clock on the next bid is that of 1 o'clock
+        Check.answers(4, farm::hoursToBid);
+    }
+
+    @Sentence("Returns the number of hours, 0 if there is a bid for the present hour of the day.")
+    static void promise43hoursToBidOfThePresentHour() {
+        WindFarmDispatcher farm = Farms.empty();
+        farm.placeBid(0, 1, 1);
+        Check.answers(0, farm::hoursToBid);
+        farm.passHours(1);
+        Check.answers(23, farm::hoursToBid);
+        farm.placeBid(2, 1, 1);
+        Check.answers(1, farm::hoursToBid);
+        farm.passHours(1);
+        Check.answers(0, farm::hoursToBid);
+        farm.passHours(22);
+        Check.answers(0, farm::hoursToBid);
+        farm.withdrawBid(0);
+        Check.answers(2, farm::hoursToBid);
+    }
+
+    @Sentence("Throws `NoSuchElementException` if there are no bids")
+    static void promise43hoursToBidNeedsABid() {
+        Twins.refuses(Check.ELEMENT, Farms::empty, WindFarmDispatcher::hoursToBid);
+        Twins.refuses(Check.ELEMENT, Farms::column, WindFarmDispatcher::hoursToBid);
+        WindFarmDispatcher farm = Farms.busy();
+        farm.withdrawBid(20);
+        Check.answers(23, farm::hoursToBid);
+        farm.withdrawBid(1);
+        Check.refuses(Check.ELEMENT, farm::hoursToBid);
+    }
+
+    // ---- accounts
+
+    @Sentence({"Returns the energy that has been made so far.", "Returns the units of energy."})
+    static void promise44energyMade() {
+        Twins.reads(0L, Farms::empty, WindFarmDispatcher::energyMade);
+        Twins.reads(250L, Farms::busy, WindFarmDispatcher::energyMade);
+        WindFarmDispatcher full = Farms.full(9);
+        full.setWind('N', 12);
+        for (int pair = 1; pair <= 100; pair++) {
+            full.passHours(48);
+        }
+        Check.answers(1080L * 4800L, full::energyMade);
+    }
+
+    @Sentence({"Returns the energy that has been lost on the line so far.", "Returns the units of energy."})
+    static void promise45energyLost() {
+        Twins.reads(0L, Farms::empty, WindFarmDispatcher::energyLost);
+        Twins.reads(12L, Farms::busy, WindFarmDispatcher::energyLost);
+        // the loss is that of each hour, not a twentieth of all
+        WindFarmDispatcher farm = Farms.alone(1);
+        farm.passHours(48);
+        Check.answers(0L, farm::energyLost);
+        farm.setWind('N', 2);
+        farm.passHours(48);
+        Check.answers(0L, farm::energyLost);
+    }
+
+    @Sentence({"Returns the energy that has been sold so far.", "Returns the units of energy."})
+    static void promise46energySold() {
+        Twins.reads(0L, Farms::empty, WindFarmDispatcher::energySold);
+        Twins.reads(100L, Farms::busy, WindFarmDispatcher::energySold);
+        WindFarmDispatcher farm = Farms.busy();
+        farm.passHours(48);
+        Check.answers(566L, farm::energySold);
+    }
+
+    @Sentence({"Returns the energy that was made so far, but neither lost nor sold.", "Returns the units of energy."})
+    static void promise47energySpilled() {
+        Twins.reads(0L, Farms::empty, WindFarmDispatcher::energySpilled);
+        Twins.reads(138L, Farms::busy, WindFarmDispatcher::energySpilled);
+        WindFarmDispatcher farm = Farms.busy();
+        farm.passHours(48);
+        Check.answers(farm.energyMade() - farm.energyLost() - 566L, farm::energySpilled);
+    }
+
+    @Sentence("Returns the coins that have been earned so far.")
+    static void promise48coins() {
+        Twins.reads(0L, Farms::empty, WindFarmDispatcher::coins);
+        Twins.reads(1000L, Farms::busy, WindFarmDispatcher::coins);
+        WindFarmDispatcher farm = Farms.busy();
+        farm.passHours(23);
+        Check.answers(1000L + 30 * (133 - 267), farm::coins);
+        farm.passHours(1);
+        Check.answers(2000L + 30 * (133 - 267), farm::coins);
+    }
+
+    @Sentence("Returns the number of coins, which can be negative.")
+    static void promise48coinsCanBeNegative() {
+        WindFarmDispatcher farm = Farms.empty();
+        for (int hour = 0; hour < 24; hour++) {
+            farm.placeBid(hour, 50, 500);
+        }
+        farm.passHours(1);
+        Check.answers(-25_000L, farm::coins);
         for (int pair = 1; pair <= 100; pair++) {
             farm.passHours(48);
         }
-        Check.answers(-120_000_000L, farm::coins);
-        Check.answers(-1_200_000, () -> farm.incomeWithin(48));
+        Check.answers(-25_000L - 120_000_000L, farm::coins);
     }
 
+    // ---- orders
+
+    @Sentence("Returns a turbine in the order of outputs, the greatest output first.")
     static void promise49turbineByOutput() {
         WindFarmDispatcher farm = Farms.column();
-        farm.addTurbine(4, 3, 3);
-        order(farm, 0, 1, 2, 3, 4);
-        farm.curtail(0, 30);
-        // 30 with 9, 35, 30 with 5, 30 with 3 twice
-        order(farm, 1, 0, 2, 3, 4);
-        farm.fail(2);
-        farm.curtail(1, 0);
-        order(farm, 0, 3, 4, 1, 2);
-        farm.setWind('N', 0);
-        order(farm, 0, 1, 2, 3, 4);
-        for (int position : new int[] {5, 12, -1, Integer.MIN_VALUE, Integer.MAX_VALUE}) {
-            Farms.refusesAndKeeps(farm, NONE, () -> farm.turbineByOutput(position));
-        }
-        Check.refuses(NONE, () -> Farms.empty().turbineByOutput(0));
+        order(farm, 0, 1, 2, 3);
+        farm.curtail(0, 34);
+        order(farm, 1, 0, 2, 3);
+        farm.curtail(0, 29);
+        order(farm, 1, 2, 3, 0);
+        farm.fail(1);
+        // the turbine 2 has a loss of 1 now
+        order(farm, 2, 3, 0, 1);
+        farm.setWind('S', 12);
+        order(farm, 2, 3, 0, 1);
     }
 
-    static void promise49turbineByOutputOfTheSameOutput() {
-        WindFarmDispatcher farm = Farms.empty();
-        farm.addTurbine(0, 0, 2);
-        farm.addTurbine(0, 2, 3);
-        farm.addTurbine(2, 1, 9);
-        farm.addTurbine(4, 4, 3);
-        order(farm, 2, 1, 3, 0);
-        farm.setWind('S', 12);
-        farm.curtail(1, 21);
-        farm.curtail(2, 20);
-        farm.curtail(3, 21);
-        order(farm, 1, 3, 2, 0);
+    @Sentence("Of turbines with the same output, the one with the greater rated power comes first, then the one with the "
+            + "lower index.")
+    static void promise49turbinesOfTheSameOutput() {
+        WindFarmDispatcher calm = Farms.empty();
+        int[][] turbines = {{0, 0, 2}, {0, 2, 3}, {2, 1, 9}, {4, 4, 3}, {4, 2, 2}};
+        for (int[] turbine : turbines) {
+            calm.addTurbine(turbine[0], turbine[1], turbine[2]);
+        }
+        order(calm, 2, 1, 3, 0, 4);
+        calm.setWind('S', 12);
+        for (int turbine = 0; turbine < 5; turbine++) {
+            calm.curtail(turbine, 15);
+        }
+        order(calm, 2, 1, 3, 0, 4);
+        calm.curtail(4, 16);
+        calm.fail(2);
+        order(calm, 4, 1, 3, 0, 2);
+    }
+
+    @Sentence("- `position`: the position, from 0")
+    static void promise49positionIsFromZero() {
+        WindFarmDispatcher farm = Farms.full(1);
+        order(farm, 0, 1, 2, 3, 4, 5, 6, 7, 8, 9, 10, 11);
+        Check.refuses(Check.ELEMENT, () -> farm.turbineByOutput(-1));
+    }
+
+    @Sentence("Returns the index of the turbine.")
+    static void promise49turbineByOutputReturnsTheIndex() {
+        Twins.reads(0, Farms::busy, farm -> farm.turbineByOutput(0));
+        Twins.reads(1, Farms::busy, farm -> farm.turbineByOutput(1));
+        Twins.reads(2, Farms::busy, farm -> farm.turbineByOutput(2));
+        Twins.reads(3, Farms::busy, farm -> farm.turbineByOutput(3));
+    }
+
+    @Sentence("Throws `NoSuchElementException` if there is no such position")
+    static void promise49turbineByOutputNeedsAPosition() {
+        Twins.refuses(Check.ELEMENT, Farms::empty, farm -> farm.turbineByOutput(0));
+        Twins.refuses(Check.ELEMENT, Farms::full, farm -> farm.turbineByOutput(12));
+        Twins.refuseEach(Check.ELEMENT, Farms::busy, WindFarmDispatcher::turbineByOutput,
+                4, -1, 5, 12, Integer.MIN_VALUE, Integer.MAX_VALUE);
     }
 
     private static void order(WindFarmDispatcher farm, int... due) {
@@ -213,55 +303,90 @@ final class HourTests {
             int position = at;
             Check.answers(due[at], () -> farm.turbineByOutput(position));
         }
+        Check.refuses(Check.ELEMENT, () -> farm.turbineByOutput(due.length));
     }
 
+    // ---- means
+
+    @Sentence({"Returns the mean output of all turbines: the total output divided by their number, both converted to "
+            + "double.", "Returns the mean output in tenths of a megawatt."})
     static void promise50meanOutput() {
-        WindFarmDispatcher farm = Farms.empty();
-        Farms.refusesAndKeeps(farm, ArithmeticException.class, farm::meanOutput);
-        farm.addTurbine(2, 2, 7);
-        farm.setWind('S', 4);
-        Check.answers(14.0, farm::meanOutput);
-        WindFarmDispatcher column = Farms.column();
-        Check.answers(46.25, column::meanOutput);
-        column.addTurbine(3, 3, 1);
-        column.addTurbine(3, 5, 1);
-        // the turbine 3 stands in the wake of the new one
-        Check.answers(196.0 / 6.0, column::meanOutput);
-        column.setWind('N', 0);
-        Check.answers(0.0, column::meanOutput);
+        Twins.reads(27.5, Farms::busy, WindFarmDispatcher::meanOutput);
+        Twins.reads(46.25, Farms::column, WindFarmDispatcher::meanOutput);
+        Twins.reads(0.0, Farms::full, WindFarmDispatcher::meanOutput);
+        Twins.reads(70.0, () -> Farms.alone(7), WindFarmDispatcher::meanOutput);
+        WindFarmDispatcher farm = Farms.alone(1);
+        farm.addTurbine(0, 0, 1);
+        farm.addTurbine(0, 5, 1);
+        farm.fail(0);
+        // no float and no other way to round has this value
+        Check.answers(20.0 / 3.0, farm::meanOutput);
+        Check.isTrue("a double", farm.meanOutput() != (double) (20.0f / 3.0f));
     }
 
-    static void promise51runningShare() {
+    @Sentence("Throws `ArithmeticException` if there are no turbines")
+    static void promise50meanOutputNeedsATurbine() {
+        Twins.refuses(Check.ARITHMETIC, Farms::empty, WindFarmDispatcher::meanOutput);
         WindFarmDispatcher farm = Farms.empty();
-        Farms.refusesAndKeeps(farm, ArithmeticException.class, farm::runningShare);
-        farm.addTurbine(2, 2, 7);
+        farm.addTurbine(0, 0, 1);
+        Check.answers(0.0, farm::meanOutput);
+        farm.undo();
+        Check.refuses(Check.ARITHMETIC, farm::meanOutput);
+    }
+
+    @Sentence({"Returns the share of running turbines among all turbines, both numbers converted to float.",
+        "Returns the share."})
+    static void promise51runningShare() {
+        Twins.reads(0.5f, Farms::busy, WindFarmDispatcher::runningShare);
+        Twins.reads(1.0f, Farms::full, WindFarmDispatcher::runningShare);
+        WindFarmDispatcher farm = Farms.full();
+        for (int failed = 1; failed <= 12; failed++) {
+            farm.fail(failed - 1);
+            Check.answers((float) (12 - failed) / 12.0f, farm::runningShare);
+        }
+        farm.sendCrew(0, 1);
+        Check.answers(0.0f, farm::runningShare);
+        farm.passHours(1);
+        Check.answers(1.0f / 12.0f, farm::runningShare);
+    }
+
+    @Sentence("Throws `ArithmeticException` if there are no turbines")
+    static void promise51runningShareNeedsATurbine() {
+        Twins.refuses(Check.ARITHMETIC, Farms::empty, WindFarmDispatcher::runningShare);
+        WindFarmDispatcher farm = Farms.empty();
+        farm.addTurbine(0, 0, 1);
         farm.fail(0);
         Check.answers(0.0f, farm::runningShare);
-        WindFarmDispatcher column = Farms.column();
-        Check.answers(1.0f, column::runningShare);
-        column.curtail(0, 0);
-        Check.answers(1.0f, column::runningShare);
-        column.addTurbine(3, 2, 1);
-        column.addTurbine(3, 3, 1);
-        column.fail(0);
-        column.sendCrew(0, 1);
-        Check.answers(5.0f / 6.0f, column::runningShare);
-        column.fail(1);
-        Check.answers(4.0f / 6.0f, column::runningShare);
+        farm.undo();
+        farm.undo();
+        Check.refuses(Check.ARITHMETIC, farm::runningShare);
     }
 
+    @Sentence({"Checks the data: both ways to compute the total output agree, the energy made is the energy lost, sold and "
+            + "spilled, and no more than 2 turbines are in service.", "Returns whether all this is true."})
     static void promise52isConsistent() {
+        Twins.reads(true, Farms::empty, WindFarmDispatcher::isConsistent);
+        Twins.reads(true, Farms::busy, WindFarmDispatcher::isConsistent);
+        Twins.reads(true, Farms::full, WindFarmDispatcher::isConsistent);
         WindFarmDispatcher farm = Farms.full(9);
-        farm.setWind('S', 9);
+        for (int turbine = 3; turbine < 7; turbine++) {
+            farm.fail(turbine);
+        }
         farm.placeBid(2, 9, 300);
-        farm.fail(4);
-        farm.fail(5);
+        farm.setGridLimit(500);
+        for (char direction : "NESW".toCharArray()) {
+            farm.setWind(direction, 12);
+            farm.dispatch();
+            farm.passHours(30);
+            Check.answers(true, farm::isConsistent);
+        }
+        // both crews are at work
         farm.sendCrew(4, 9);
         farm.sendCrew(5, 12);
-        farm.setGridLimit(500);
-        farm.dispatch();
-        farm.passHours(30);
         Check.answers(true, farm::isConsistent);
-        Farms.isNoChange(farm, farm::isConsistent);
+        Check.outcome(() -> farm.sendCrew(6, 12));
+        Check.answers(true, farm::isConsistent);
+        farm.undo();
+        Check.answers(true, farm::isConsistent);
     }
 }

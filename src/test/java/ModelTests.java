@@ -143,7 +143,7 @@ final class ModelTests {
     }
 
     private int lastTurbine() {
-        return Math.max(0, farm.turbineCount() - 1);
+        return Math.max(0, model.turbineCount() - 1);
     }
 
     private int[] topsOf(String name) {
