@@ -10,6 +10,7 @@ final class AllTests {
     private static final Class<?>[] CLASSES = {
         TermTests.class, CommandTests.class, RuleTests.class, TurbineTests.class, WindTests.class, BidTests.class,
         HourTests.class, TextTests.class, HistoryTests.class, SentenceTests.class, FaceTests.class, ModelTests.class,
+        ReadmeTests.class,
     };
 
     // Far longer than any test takes, so that a call that does not end fails its test.
